@@ -341,18 +341,14 @@ public final class TreeJoiner {
 
         int find(int[] bytes, int start, int stop) {
             for (int number = 0; number < size; number++) {
-                if (isSame(number, bytes, start, stop)) {
+                if (lengths[number] == stop - start && isSame(begin(number), bytes, start, stop)) {
                     return number;
                 }
             }
             return NONE;
         }
 
-        private boolean isSame(int number, int[] bytes, int start, int stop) {
-            if (lengths[number] != stop - start) {
-                return false;
-            }
-            int begin = begin(number);
+        private boolean isSame(int begin, int[] bytes, int start, int stop) {
             for (int i = start; i < stop; i++) {
                 if (bytes[i] != letters[begin + i - start]) {
                     return false;
@@ -450,8 +446,12 @@ public final class TreeJoiner {
             cells[row * CELLS + what] = value;
         }
 
+        boolean hasFoot(int row) {
+            return cells[row * CELLS + HAS_FOOT] == 1;
+        }
+
         boolean isAuxiliary(int tree) {
-            return cell(row(tree, 0), HAS_FOOT) == 1;
+            return hasFoot(row(tree, 0));
         }
 
         int rootLabel(int tree) {
@@ -480,7 +480,7 @@ public final class TreeJoiner {
                 int row = row(tree, node);
                 int next = nextPart(tree, node);
                 boolean later = next != NONE && cell(next, FOOT_FROM_HERE) == 1;
-                boolean here = cell(row, HAS_FOOT) == 1;
+                boolean here = hasFoot(row);
                 int parent = cell(row, PARENT);
                 set(row, NEXT, next);
                 set(row, FOOT_FROM_HERE, here || later ? 1 : 0);
@@ -730,25 +730,25 @@ public final class TreeJoiner {
 
         /** Of a part that has later ones, up to where these begin. */
         int headWays(int row, int from, int to, int gapFrom, int gapTo) {
-            boolean gap = hasFoot(row);
+            boolean gap = forest.hasFoot(row);
             return single[row * QUADS + at(from, to, gap ? gapFrom : NONE, gap ? gapTo : NONE)];
         }
 
         /** Of the later parts, from where the part before them ends. */
         int tailWays(int row, int from, int to, int gapFrom, int gapTo) {
-            boolean gap = !hasFoot(row);
+            boolean gap = !forest.hasFoot(row);
             int next = forest.cell(row, Forest.NEXT);
             return onward[next * QUADS + at(from, to, gap ? gapFrom : NONE, gap ? gapTo : NONE)];
         }
 
         /** Where a part that has later ones ends at the earliest. */
         int firstSplit(int row, int from, int gapTo) {
-            return hasFoot(row) ? gapTo : from;
+            return forest.hasFoot(row) ? gapTo : from;
         }
 
         /** Where it ends at the latest. */
         int lastSplit(int row, int to, int gapFrom) {
-            return hasFoot(row) || gapFrom == NONE ? to : gapFrom;
+            return forest.hasFoot(row) || gapFrom == NONE ? to : gapFrom;
         }
 
         /**
@@ -832,8 +832,9 @@ public final class TreeJoiner {
             for (int p = from; p <= lastP; p++) {
                 for (int q = Math.max(p, gapTo); q <= to; q++) {
                     long above = auxiliary[trees + at(from, to, p, q)];
-                    int below = onward[parts + at(p, q, gapFrom, gapTo)];
-                    ways = cut(ways + above * below);
+                    if (above != 0) {
+                        ways = cut(ways + above * onward[parts + at(p, q, gapFrom, gapTo)]);
+                    }
                 }
             }
             return ways;
@@ -847,7 +848,9 @@ public final class TreeJoiner {
             int last = lastSplit(row, to, gapFrom);
             for (int e = firstSplit(row, from, gapTo); e <= last; e++) {
                 long head = headWays(row, from, e, gapFrom, gapTo);
-                ways = cut(ways + head * tailWays(row, e, to, gapFrom, gapTo));
+                if (head != 0) {
+                    ways = cut(ways + head * tailWays(row, e, to, gapFrom, gapTo));
+                }
             }
             return ways;
         }
@@ -874,10 +877,6 @@ public final class TreeJoiner {
                     auxiliary[sum] = cut((long) auxiliary[sum] + single[root * QUADS + quad]);
                 }
             }
-        }
-
-        private boolean hasFoot(int row) {
-            return forest.cell(row, Forest.HAS_FOOT) == 1;
         }
 
         private static int at(int from, int to, int gapFrom, int gapTo) {
@@ -939,27 +938,22 @@ public final class TreeJoiner {
                 useCells[use * USE_CELLS + what] = nodeCell(use, 0, what);
             }
             for (int node = 0; node < forest.sizes[tree]; node++) {
-                int child = startAt(use, node, Forest.row(tree, node));
+                int row = Forest.row(tree, node);
+                int kind = forest.cell(row, Forest.KIND);
+                int child = NONE;
+                if (kind == Forest.OPEN) {
+                    child = startInitial(forest.cell(row, Forest.NAME), use, node,
+                            nodeCell(use, node, FROM), nodeCell(use, node, TO),
+                            nodeCell(use, node, RANK));
+                } else if (kind == Forest.INNER) {
+                    child = startAuxiliary(use, node, row);
+                    layParts(use, node, row);
+                }
                 setNodeCell(use, node, CHILD, child);
                 if (child != NONE) {
                     unfoldUse(child);
                 }
             }
-        }
-
-        private int startAt(int use, int node, int row) {
-            int kind = forest.cell(row, Forest.KIND);
-            if (kind == Forest.OPEN) {
-                return startInitial(forest.cell(row, Forest.NAME), use, node,
-                        nodeCell(use, node, FROM), nodeCell(use, node, TO),
-                        nodeCell(use, node, RANK));
-            }
-            int child = NONE;
-            if (kind == Forest.INNER) {
-                child = startAuxiliary(use, node, row);
-                layParts(use, node, row);
-            }
-            return child;
         }
 
         private int startInitial(int label, int of, int at, int from, int to, int rank) {
@@ -1043,7 +1037,7 @@ public final class TreeJoiner {
             int gapTo = nodeCell(use, part, GAP_TO);
             int left = nodeCell(use, part, RANK);
             int next = forest.cell(row, Forest.NEXT) - row + part;
-            boolean here = forest.cell(row, Forest.HAS_FOOT) == 1;
+            boolean here = forest.hasFoot(row);
             int last = chart.lastSplit(row, to, gapFrom);
             for (int e = chart.firstSplit(row, from, gapTo); e <= last; e++) {
                 long head = chart.headWays(row, from, e, gapFrom, gapTo);
@@ -1115,15 +1109,15 @@ public final class TreeJoiner {
         void grow() {
             size = 0;
             waitingSize = 0;
-            await(0, 0, NONE);
-            while (waitingSize > 0 && size < MOST) {
+            push(0, 0, NONE);
+            for (int added = 0; added < MOST && waitingSize > 0; added++) {
                 waitingSize--;
                 addInstead(waiting[waitingSize * 3], waiting[waitingSize * 3 + 1],
                         waiting[waitingSize * 3 + 2]);
             }
         }
 
-        private void await(int use, int node, int parent) {
+        private void push(int use, int node, int parent) {
             if (waitingSize < MOST) {
                 waiting[waitingSize * 3] = use;
                 waiting[waitingSize * 3 + 1] = node;
@@ -1164,7 +1158,7 @@ public final class TreeJoiner {
             cells[x + PARTS] = forest.cell(Forest.row(tree, node), Forest.PARTS);
             for (int part = forest.sizes[tree] - 1; part > node; part--) {
                 if (forest.cell(Forest.row(tree, part), Forest.PARENT) == node) {
-                    await(use, part, size);
+                    push(use, part, size);
                 }
             }
             size++;
