@@ -42,6 +42,10 @@ public final class TreeTest {
         fault(x, "S(a{)", 1, 3);
         fault(x, "S(a/)", 1, 3);
         fault(x, "S(a,)", 1, 3);
+        fault(x, "S/(a)", 1, 1);
+        fault(x, "S:(a)", 1, 1);
+        fault(x, "S[(a)", 1, 1);
+        fault(x, "S@(a)", 1, 1);
         // 2: it cannot stand there, or the text ends too soon.
         fault(x, "   ", 2, 3);
         fault(x, "S", 2, 1);
