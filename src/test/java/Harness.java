@@ -1,4 +1,5 @@
 import java.nio.charset.StandardCharsets;
+import java.util.function.IntFunction;
 import java.util.function.IntSupplier;
 
 /** What all tests share: texts go on the tape, answers are compared, failures are counted. */
@@ -53,6 +54,38 @@ final class Harness {
 
     void state(String what, IntSupplier call) {
         fails(what, IllegalStateException.class, call);
+    }
+
+    void goodTree(TreeJoiner x, String text) {
+        answer(x, "tree", text, x.count(0), tree(x, text), 0);
+    }
+
+    void badTree(TreeJoiner x, String text, int code, int place) {
+        answer(x, "tree", text, -1 - place, tree(x, text), code);
+    }
+
+    void goodSentence(TreeJoiner x, String text, int words) {
+        answer(x, "sentence", text, words, sentence(x, text), 0);
+        same("words behind sentence " + text, words, x.count(3));
+    }
+
+    void badSentence(TreeJoiner x, String text, int code, int place) {
+        answer(x, "sentence", text, -1 - place, sentence(x, text), code);
+    }
+
+    void goodRead(TreeJoiner x, String text, int ways) {
+        answer(x, "read", text, ways, read(x, text), 0);
+        same("ways behind read " + text, ways, x.count(4));
+    }
+
+    void badRead(TreeJoiner x, String text, int code, int place) {
+        answer(x, "read", text, -1 - place, read(x, text), code);
+        same("ways behind read " + text, TreeJoiner.NONE, x.count(4));
+    }
+
+    private void answer(TreeJoiner x, String call, String text, int want, int got, int code) {
+        same(call + " " + text, want, got);
+        same("fault of " + call + " " + text, code, x.fault());
     }
 
     void done() {
@@ -143,7 +176,46 @@ final class Harness {
         return out.toString();
     }
 
+    /** Answers of the calls for 0, 1, 2 and so on, up to the one that throws. */
+    private static String list(IntFunction<String> call) {
+        StringBuilder out = new StringBuilder();
+        for (int i = 0; i < 1000; i++) {
+            try {
+                out.append(call.apply(i));
+            } catch (IndexOutOfBoundsException e) {
+                return out.append('\n').toString();
+            }
+        }
+        throw new AssertionError("there is no end of it");
+    }
+
+    private static String names(TreeJoiner x, boolean word, int many) {
+        StringBuilder out = new StringBuilder();
+        for (int i = 0; i < many; i++) {
+            int number = i;
+            out.append(list(at -> String.valueOf((char) x.letter(word, number, at))));
+        }
+        return out.toString();
+    }
+
     /** Everything that can be asked without changing anything, but for the tape. */
+    static String everything(TreeJoiner x) {
+        StringBuilder out = new StringBuilder(state(x));
+        out.append(names(x, false, x.count(1))).append(names(x, true, x.count(2)));
+        for (int i = 0; i < x.count(0); i++) {
+            int t = i;
+            out.append(list(n -> {
+                StringBuilder cells = new StringBuilder();
+                for (int what = 0; what <= 4; what++) {
+                    cells.append(x.node(t, n, what)).append(what == 4 ? ", " : " ");
+                }
+                return cells.toString();
+            }));
+        }
+        return out.toString();
+    }
+
+    /** The counts, the fault, and the chosen way with its whole tree. */
     static String state(TreeJoiner x) {
         StringBuilder out = new StringBuilder();
         for (int what = 0; what <= 6; what++) {

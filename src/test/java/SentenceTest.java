@@ -14,11 +14,6 @@ public final class SentenceTest {
         H.done();
     }
 
-    private static void fault(TreeJoiner x, String text, int code, int place) {
-        H.same("sentence " + text, -1 - place, Harness.sentence(x, text));
-        H.same("fault of " + text, code, x.fault());
-    }
-
     private static void sentences() {
         TreeJoiner x = new TreeJoiner();
         H.same("no word", 0, Harness.sentence(x, ""));
@@ -27,21 +22,21 @@ public final class SentenceTest {
         H.same("one word", 1, Harness.sentence(x, "abcdefghijkl"));
         H.same("eight words", 8, Harness.sentence(x, "\na b\tc\rd\ne  f g h "));
         H.same("eight are counted", 8, x.count(3));
-        fault(x, "a b c d e f g h i", 3, 16);
-        fault(x, "a b c d e f g h i .", 3, 16);
-        fault(x, "a b c d e f g h I", 2, 16);
-        fault(x, "a b c d e f g h abcdefghijklm", 1, 16);
-        fault(x, "a b c d e f g h", 0, -9);
-        fault(x, "a abcdefghijklm", 1, 2);
-        fault(x, "a ABCDEFGHI", 1, 2);
-        fault(x, "a b1", 1, 3);
-        fault(x, "aB", 2, 1);
-        fault(x, "a (b", 2, 2);
-        fault(x, "a b!", 2, 3);
-        fault(x, " *", 2, 1);
-        fault(x, "a + .", 2, 2);
-        fault(x, "a . +", 1, 2);
-        fault(x, "\u00e4", 1, 0);
+        H.badSentence(x, "a b c d e f g h i", 3, 16);
+        H.badSentence(x, "a b c d e f g h i .", 3, 16);
+        H.badSentence(x, "a b c d e f g h I", 2, 16);
+        H.badSentence(x, "a b c d e f g h abcdefghijklm", 1, 16);
+        H.goodSentence(x, "a b c d e f g h", 8);
+        H.badSentence(x, "a abcdefghijklm", 1, 2);
+        H.badSentence(x, "a ABCDEFGHI", 1, 2);
+        H.badSentence(x, "a b1", 1, 3);
+        H.badSentence(x, "aB", 2, 1);
+        H.badSentence(x, "a (b", 2, 2);
+        H.badSentence(x, "a b!", 2, 3);
+        H.badSentence(x, " *", 2, 1);
+        H.badSentence(x, "a + .", 2, 2);
+        H.badSentence(x, "a . +", 1, 2);
+        H.badSentence(x, "\u00e4", 1, 0);
         H.same("eight stay", 8, x.count(3));
     }
 
@@ -51,7 +46,7 @@ public final class SentenceTest {
         Harness.read(x, "S");
         x.choose(0);
         String before = Harness.uses(x) + Harness.whole(x);
-        fault(x, "b b b .", 1, 6);
+        H.badSentence(x, "b b b .", 1, 6);
         H.same("the way stays", before, Harness.uses(x) + Harness.whole(x));
         H.same("ways stay", 1, x.count(4));
         H.same("words stay", 2, x.count(3));
@@ -68,12 +63,6 @@ public final class SentenceTest {
         H.state("choose behind sentence", () -> x.choose(0));
     }
 
-    private static void label(TreeJoiner x, String text, int code, int place) {
-        H.same("read " + text, -1 - place, Harness.read(x, text));
-        H.same("fault of " + text, code, x.fault());
-        H.same("ways behind " + text, -1, x.count(4));
-    }
-
     private static void labels() {
         TreeJoiner x = Harness.with("S(a)", "T(a T*)", "ABCDEFG8(a)", "R-(S!S!a)");
         Harness.sentence(x, "a");
@@ -88,18 +77,18 @@ public final class SentenceTest {
         H.same("ways", 0, x.count(4));
         H.same("and is not kept", 4, x.count(1));
         H.index("choose without a way", () -> x.choose(0));
-        label(x, "", 2, 0);
-        label(x, "  ", 2, 2);
-        label(x, "s", 2, 0);
-        label(x, "S S", 2, 2);
-        label(x, "Ss", 2, 1);
-        label(x, "S!", 2, 1);
-        label(x, "(S", 2, 0);
-        label(x, "S .", 1, 2);
-        label(x, "S ABCDEFGHI", 1, 2);
-        label(x, "ABCDEFGHI", 1, 0);
-        label(x, "?", 1, 0);
-        label(x, "abcdefghijklm", 1, 0);
+        H.badRead(x, "", 2, 0);
+        H.badRead(x, "  ", 2, 2);
+        H.badRead(x, "s", 2, 0);
+        H.badRead(x, "S S", 2, 2);
+        H.badRead(x, "Ss", 2, 1);
+        H.badRead(x, "S!", 2, 1);
+        H.badRead(x, "(S", 2, 0);
+        H.badRead(x, "S .", 1, 2);
+        H.badRead(x, "S ABCDEFGHI", 1, 2);
+        H.badRead(x, "ABCDEFGHI", 1, 0);
+        H.badRead(x, "?", 1, 0);
+        H.badRead(x, "abcdefghijklm", 1, 0);
         Harness.sentence(x, "");
         H.same("no words are read by no tree", 0, Harness.read(x, "S"));
     }

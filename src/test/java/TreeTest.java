@@ -14,145 +14,134 @@ public final class TreeTest {
         H.done();
     }
 
-    private static void fault(TreeJoiner x, String text, int code, int place) {
-        H.same("tree " + text, -1 - place, Harness.tree(x, text));
-        H.same("fault of " + text, code, x.fault());
-    }
-
-    private static void good(TreeJoiner x, String text) {
-        int trees = x.count(0);
-        H.same("tree " + text, trees, Harness.tree(x, text));
-        H.same("fault of " + text, 0, x.fault());
-    }
-
     private static void faults() {
         TreeJoiner x = new TreeJoiner();
         // 1: no token, or too long a one.
-        fault(x, "S(a .)", 1, 4);
-        fault(x, "S(a \u000b)", 1, 4);
-        fault(x, "S(a \u0000)", 1, 4);
-        fault(x, "S(a1)", 1, 3);
-        fault(x, "9S(a)", 1, 0);
-        fault(x, "S(abcdefghijklm)", 1, 2);
-        fault(x, "S(ABCDEFGHI!a)", 1, 2);
-        fault(x, "S(A1234567A!a)", 1, 2);
-        fault(x, "S(a[)", 1, 3);
-        fault(x, "S(a@)", 1, 3);
-        fault(x, "S(a`)", 1, 3);
-        fault(x, "S(a{)", 1, 3);
-        fault(x, "S(a/)", 1, 3);
-        fault(x, "S(a,)", 1, 3);
-        fault(x, "S/(a)", 1, 1);
-        fault(x, "S:(a)", 1, 1);
-        fault(x, "S[(a)", 1, 1);
-        fault(x, "S@(a)", 1, 1);
+        H.badTree(x, "S(a .)", 1, 4);
+        H.badTree(x, "S(a \u000b)", 1, 4);
+        H.badTree(x, "S(a \u0000)", 1, 4);
+        H.badTree(x, "S(a1)", 1, 3);
+        H.badTree(x, "9S(a)", 1, 0);
+        H.badTree(x, "S(abcdefghijklm)", 1, 2);
+        H.badTree(x, "S(ABCDEFGHI!a)", 1, 2);
+        H.badTree(x, "S(A1234567A!a)", 1, 2);
+        H.badTree(x, "S(a[)", 1, 3);
+        H.badTree(x, "S(a@)", 1, 3);
+        H.badTree(x, "S(a`)", 1, 3);
+        H.badTree(x, "S(a{)", 1, 3);
+        H.badTree(x, "S(a/)", 1, 3);
+        H.badTree(x, "S(a,)", 1, 3);
+        H.badTree(x, "S/(a)", 1, 1);
+        H.badTree(x, "S:(a)", 1, 1);
+        H.badTree(x, "S[(a)", 1, 1);
+        H.badTree(x, "S@(a)", 1, 1);
         // 2: it cannot stand there, or the text ends too soon.
-        fault(x, "   ", 2, 3);
-        fault(x, "S", 2, 1);
-        fault(x, "S  ", 2, 3);
-        fault(x, "S+", 2, 2);
-        fault(x, "S(a \n", 2, 5);
-        fault(x, "S(a B", 2, 5);
-        fault(x, "S(a B-", 2, 6);
-        fault(x, "S(a B)", 2, 5);
-        fault(x, "S a", 2, 2);
-        fault(x, "Sa(b)", 2, 1);
-        fault(x, "S+!", 2, 2);
-        fault(x, "S-*", 2, 2);
-        fault(x, "S+-(a)", 2, 2);
-        fault(x, "S(a(b))", 2, 3);
-        fault(x, "S(a!)", 2, 3);
-        fault(x, "S(a)!", 2, 4);
-        fault(x, "S(a))", 2, 4);
-        fault(x, "S(a)(b)", 2, 4);
-        fault(x, "S((a))", 2, 2);
-        fault(x, "S(A!+ a)", 2, 4);
-        fault(x, "S(A()a)", 2, 4);
-        fault(x, "a b", 2, 2);
-        fault(x, "!", 2, 0);
-        fault(x, " )", 2, 1);
+        H.badTree(x, "   ", 2, 3);
+        H.badTree(x, "S", 2, 1);
+        H.badTree(x, "S  ", 2, 3);
+        H.badTree(x, "S+", 2, 2);
+        H.badTree(x, "S(a \n", 2, 5);
+        H.badTree(x, "S(a B", 2, 5);
+        H.badTree(x, "S(a B-", 2, 6);
+        H.badTree(x, "S(a B)", 2, 5);
+        H.badTree(x, "S a", 2, 2);
+        H.badTree(x, "Sa(b)", 2, 1);
+        H.badTree(x, "S+!", 2, 2);
+        H.badTree(x, "S-*", 2, 2);
+        H.badTree(x, "S+-(a)", 2, 2);
+        H.badTree(x, "S(a(b))", 2, 3);
+        H.badTree(x, "S(a!)", 2, 3);
+        H.badTree(x, "S(a)!", 2, 4);
+        H.badTree(x, "S(a))", 2, 4);
+        H.badTree(x, "S(a)(b)", 2, 4);
+        H.badTree(x, "S((a))", 2, 2);
+        H.badTree(x, "S(A!+ a)", 2, 4);
+        H.badTree(x, "S(A()a)", 2, 4);
+        H.badTree(x, "a b", 2, 2);
+        H.badTree(x, "!", 2, 0);
+        H.badTree(x, " )", 2, 1);
         // 4 to 8, of a text that is a NODE.
-        fault(x, "  a", 4, 0);
-        fault(x, " S !", 4, 0);
-        fault(x, "S*", 4, 0);
-        fault(x, "S(a S* S* S*)", 5, 7);
-        fault(x, "S(S(S*) a  T*)", 5, 11);
-        fault(x, "S(a T* S*)", 5, 7);
-        fault(x, "S(S* S*)", 5, 5);
-        fault(x, "S(a B(T *))", 6, 6);
-        fault(x, "S(T*)", 6, 2);
-        fault(x, "  S(S*)", 7, 0);
-        fault(x, "S(A(B!))", 7, 0);
+        H.badTree(x, "  a", 4, 0);
+        H.badTree(x, " S !", 4, 0);
+        H.badTree(x, "S*", 4, 0);
+        H.badTree(x, "S(a S* S* S*)", 5, 7);
+        H.badTree(x, "S(S(S*) a  T*)", 5, 11);
+        H.badTree(x, "S(a T* S*)", 5, 7);
+        H.badTree(x, "S(S* S*)", 5, 5);
+        H.badTree(x, "S(a B(T *))", 6, 6);
+        H.badTree(x, "S(T*)", 6, 2);
+        H.badTree(x, "  S(S*)", 7, 0);
+        H.badTree(x, "S(A(B!))", 7, 0);
         H.same("nothing of these is kept", "0 0 0 0 -1 0 0 7\n", Harness.state(x));
-        good(x, "\t\n\r S\t(\na\r)  ");
-        good(x, "S-(A+(B!aB(b))S * A1!)");
-        good(x, "ABCDEFGH(abcdefghijkl)");
-        good(x, "Z0123456(z)");
-        good(x, "S(S(S(S(S(S(S(S(S(S(S(a)))))))))))");
-        fault(x, "S(S(S(S(S(S(S(S(S(S(S(S(a))))))))))))", 3, 24);
-        fault(x, "S(a a a a a a a a a a a a)", 3, 24);
-        fault(x, "S(a a a a a a a a a a a A!)", 3, 24);
+        H.goodTree(x, "\t\n\r S\t(\na\r)  ");
+        H.goodTree(x, "S-(A+(B!aB(b))S * A1!)");
+        H.goodTree(x, "ABCDEFGH(abcdefghijkl)");
+        H.goodTree(x, "Z0123456(z)");
+        H.goodTree(x, "S(S(S(S(S(S(S(S(S(S(S(a)))))))))))");
+        H.badTree(x, "S(S(S(S(S(S(S(S(S(S(S(S(a))))))))))))", 3, 24);
+        H.badTree(x, "S(a a a a a a a a a a a a)", 3, 24);
+        H.badTree(x, "S(a a a a a a a a a a a A!)", 3, 24);
     }
 
     private static void faultsThatComeFirst() {
         TreeJoiner x = new TreeJoiner();
-        fault(x, "S(a ) ) .", 2, 6);
-        fault(x, "S(a . ) )", 1, 4);
-        fault(x, "S(a a a a a a a a a a a a .", 3, 24);
-        fault(x, "S(a a a a a a a a a a a abcdefghijklm", 1, 24);
-        fault(x, "S(a a a a a a a a a a a !", 2, 24);
-        fault(x, "S(a a a a a a a a a a a B .)", 3, 24);
-        fault(x, "a abcdefghijklm", 1, 2);
-        fault(x, "S(T* S*) a", 2, 9);
-        fault(x, "a .", 1, 2);
-        fault(x, "T!!", 2, 2);
+        H.badTree(x, "S(a ) ) .", 2, 6);
+        H.badTree(x, "S(a . ) )", 1, 4);
+        H.badTree(x, "S(a a a a a a a a a a a a .", 3, 24);
+        H.badTree(x, "S(a a a a a a a a a a a abcdefghijklm", 1, 24);
+        H.badTree(x, "S(a a a a a a a a a a a !", 2, 24);
+        H.badTree(x, "S(a a a a a a a a a a a B .)", 3, 24);
+        H.badTree(x, "a abcdefghijklm", 1, 2);
+        H.badTree(x, "S(T* S*) a", 2, 9);
+        H.badTree(x, "a .", 1, 2);
+        H.badTree(x, "T!!", 2, 2);
     }
 
     private static void tooManyNames() {
         TreeJoiner x = new TreeJoiner();
-        good(x, "A(B!C!D!E!F!G!H!I!J!K!a)");
-        good(x, "A(L!M!N!O!B!b)");
+        H.goodTree(x, "A(B!C!D!E!F!G!H!I!J!K!a)");
+        H.goodTree(x, "A(L!M!N!O!B!b)");
         H.same("labels", 15, x.count(1));
-        fault(x, "A(P! Q! a)", 3, 5);
-        fault(x, "P(Q(a))", 3, 2);
+        H.badTree(x, "A(P! Q! a)", 3, 5);
+        H.badTree(x, "P(Q(a))", 3, 2);
         H.same("labels are not kept", 15, x.count(1));
-        good(x, "P(A! P! a)");
+        H.goodTree(x, "P(A! P! a)");
         H.same("labels", 16, x.count(1));
-        fault(x, "Q(a)", 3, 0);
-        fault(x, "AA!", 3, 0);
-        good(x, "A(c d e f g h i j k l m)");
-        good(x, "A(n o p q r s t u v w x)");
-        good(x, "A(y z aa ab ac ad a b c d e)");
+        H.badTree(x, "Q(a)", 3, 0);
+        H.badTree(x, "AA!", 3, 0);
+        H.goodTree(x, "A(c d e f g h i j k l m)");
+        H.goodTree(x, "A(n o p q r s t u v w x)");
+        H.goodTree(x, "A(y z aa ab ac ad a b c d e)");
         H.same("words", 30, x.count(2));
-        fault(x, "A(ae a ae af a ag)", 3, 15);
+        H.badTree(x, "A(ae a ae af a ag)", 3, 15);
         H.same("words are not kept", 30, x.count(2));
-        good(x, "A(ae af ae a)");
+        H.goodTree(x, "A(ae af ae a)");
         H.same("words", 32, x.count(2));
-        fault(x, "A(a b ag)", 3, 6);
-        fault(x, "ag", 3, 0);
-        good(x, "A(a)");
+        H.badTree(x, "A(a b ag)", 3, 6);
+        H.badTree(x, "ag", 3, 0);
+        H.goodTree(x, "A(a)");
     }
 
     private static void tooManyTrees() {
         TreeJoiner x = new TreeJoiner();
         for (int i = 0; i < 16; i++) {
-            good(x, "S(a S(b))");
+            H.goodTree(x, "S(a S(b))");
         }
-        fault(x, "S(a)", 8, 0);
-        fault(x, "  T(c)", 8, 0);
+        H.badTree(x, "S(a)", 8, 0);
+        H.badTree(x, "  T(c)", 8, 0);
         H.same("no tree, LABEL, WORD more", "16 1 2 0 -1 0 0 8\n", Harness.state(x));
-        fault(x, "S(A!)", 7, 0);
-        fault(x, "S(a T*)", 6, 4);
-        fault(x, "S(a S*S*)", 5, 6);
-        fault(x, "b", 4, 0);
-        fault(x, "S(a a a a a a a a a a a a)", 3, 24);
-        fault(x, "S(", 2, 2);
-        fault(x, "#", 1, 0);
+        H.badTree(x, "S(A!)", 7, 0);
+        H.badTree(x, "S(a T*)", 6, 4);
+        H.badTree(x, "S(a S*S*)", 5, 6);
+        H.badTree(x, "b", 4, 0);
+        H.badTree(x, "S(a a a a a a a a a a a a)", 3, 24);
+        H.badTree(x, "S(", 2, 2);
+        H.badTree(x, "#", 1, 0);
         H.same("the last tree stays", "0 0 -1 2 0\n3 0 0 0 0\n0 0 0 1 0\n3 1 2 0 0\n",
                 Harness.nodes(x, 15, 4));
         H.index("node(16, 0, 0)", () -> x.node(16, 0, 0));
         H.same("clear", 16, x.clear());
-        good(x, "T(c)");
+        H.goodTree(x, "T(c)");
     }
 
     private static void faultKeepsAllElse() {
@@ -161,8 +150,8 @@ public final class TreeTest {
         Harness.read(x, "S");
         x.choose(0);
         String before = Harness.uses(x) + Harness.whole(x);
-        fault(x, "S(b T(c))d", 2, 9);
-        fault(x, "T(b S*)", 6, 4);
+        H.badTree(x, "S(b T(c))d", 2, 9);
+        H.badTree(x, "T(b S*)", 6, 4);
         H.same("the way stays", before, Harness.uses(x) + Harness.whole(x));
         H.same("ways stay", 1, x.count(4));
         H.same("labels stay", 1, x.count(1));
@@ -176,7 +165,7 @@ public final class TreeTest {
         Harness.sentence(x, "a");
         Harness.read(x, "S");
         x.choose(0);
-        good(x, "S(a)");
+        H.goodTree(x, "S(a)");
         H.same("the sentence was not read", "2 1 1 1 -1 0 0 0\n", Harness.state(x));
         H.state("choose behind tree", () -> x.choose(0));
         H.index("use behind tree", () -> x.use(0, 0));
