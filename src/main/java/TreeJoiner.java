@@ -421,11 +421,17 @@ public final class TreeJoiner {
         static final int MARK = 4;
         // The row of the next part of the same node, NONE for the last one.
         static final int NEXT = 5;
-        // 1 if the foot is in this node.
-        static final int HAS_FOOT = 6;
-        // 1 if the foot is in this node or in a later part of the same node.
-        static final int FOOT_FROM_HERE = 7;
-        static final int CELLS = 8;
+        // Of this node: how many feet are in it, how many words it covers at the least, and how
+        // many WORDs are in it.
+        static final int FEET = 6;
+        static final int LEAST = 7;
+        static final int WORDS = 8;
+        // The same three of this node together with the later parts of the same node.
+        static final int ONWARD = 3;
+        static final int CELLS = 12;
+
+        // FEET, LEAST and WORDS of a node without parts, by its kind.
+        private static final int[] OF_LEAF = {0, 0, 0, 0, 1, 0, 1, 0, 0, 0, 1, 1};
 
         final Names labels = new Names(MOST_LABELS, LABEL_BYTES);
         final Names words = new Names(MOST_WORDS, WORD_BYTES);
@@ -447,7 +453,11 @@ public final class TreeJoiner {
         }
 
         boolean hasFoot(int row) {
-            return cells[row * CELLS + HAS_FOOT] == 1;
+            return cells[row * CELLS + FEET] == 1;
+        }
+
+        boolean hasWord(int row, int onwards) {
+            return cell(row, WORDS + onwards) > 0;
         }
 
         boolean isAuxiliary(int tree) {
@@ -466,26 +476,25 @@ public final class TreeJoiner {
             set(row, PARENT, parent);
             set(row, PARTS, 0);
             set(row, MARK, 0);
-            set(row, NEXT, NONE);
-            set(row, HAS_FOOT, kind == FOOT ? 1 : 0);
             if (parent != NONE) {
                 int above = row(tree, parent);
                 set(above, PARTS, cell(above, PARTS) + 1);
             }
         }
 
-        /** Links the parts of each node, and tells where the foot is. */
+        /** Links the parts of each node, and sums up what is in it. */
         void link(int tree) {
             for (int node = sizes[tree] - 1; node >= 0; node--) {
                 int row = row(tree, node);
+                int kind = cell(row, KIND);
                 int next = nextPart(tree, node);
-                boolean later = next != NONE && cell(next, FOOT_FROM_HERE) == 1;
-                boolean here = hasFoot(row);
-                int parent = cell(row, PARENT);
                 set(row, NEXT, next);
-                set(row, FOOT_FROM_HERE, here || later ? 1 : 0);
-                if (here && parent != NONE) {
-                    set(row(tree, parent), HAS_FOOT, 1);
+                for (int what = FEET; what <= WORDS; what++) {
+                    int here = kind == INNER ? cell(row + 1, what + ONWARD)
+                            : OF_LEAF[kind * ONWARD + what - FEET];
+                    int later = next == NONE ? 0 : cell(next, what + ONWARD);
+                    set(row, what, here);
+                    set(row, what + ONWARD, here + later);
                 }
             }
         }
@@ -687,15 +696,17 @@ public final class TreeJoiner {
 
     /**
      * The numbers of ways in which nodes lie over places. A gap of NONE to NONE is no gap; a node
-     * with the foot in it is only asked with a gap, another one only without.
+     * with the foot in it is only asked with a gap, another one only without. A gap without words
+     * is never asked for: what would lie there has a word, or the foot over such a gap again.
      */
     private static final class Chart {
         private static final int PAIRS = 45;
-        private static final int QUADS = 495;
-        // Binomial coefficients, which number the ascending pairs and quads of places 0 to 8.
+        private static final int QUADS = 330;
+        // Binomial coefficients, which number the places from <= to, and from <= gapFrom < gapTo
+        // <= to, of 0 to 8.
         private static final int[] SECOND = {0, 1, 3, 6, 10, 15, 21, 28, 36};
-        private static final int[] THIRD = {0, 1, 4, 10, 20, 35, 56, 84, 120};
-        private static final int[] FOURTH = {0, 1, 5, 15, 35, 70, 126, 210, 330};
+        private static final int[] THIRD = {0, 0, 1, 4, 10, 20, 35, 56, 84};
+        private static final int[] FOURTH = {0, 0, 1, 5, 15, 35, 70, 126, 210};
 
         int length;
         private final Forest forest;
@@ -706,6 +717,7 @@ public final class TreeJoiner {
         // Of all initial, and of all auxiliary trees with a label together.
         private final int[] initial = new int[MOST_LABELS * PAIRS];
         private final int[] auxiliary = new int[MOST_LABELS * QUADS];
+        private final int[] auxiliaryTrees = new int[MOST_LABELS];
 
         Chart(Forest forest) {
             this.forest = forest;
@@ -743,30 +755,47 @@ public final class TreeJoiner {
 
         /** Where a part that has later ones ends at the earliest. */
         int firstSplit(int row, int from, int gapTo) {
-            return forest.hasFoot(row) ? gapTo : from;
+            return forest.hasFoot(row) ? gapTo : from + forest.cell(row, Forest.LEAST);
         }
 
         /** Where it ends at the latest. */
         int lastSplit(int row, int to, int gapFrom) {
-            return forest.hasFoot(row) || gapFrom == NONE ? to : gapFrom;
+            int next = forest.cell(row, Forest.NEXT);
+            return forest.hasFoot(row) || gapFrom == NONE
+                    ? to - forest.cell(next, Forest.LEAST + Forest.ONWARD) : gapFrom;
+        }
+
+        /** How many places the parts of a node with this gap lie over at the least. */
+        int narrowest(int row, int gapFrom, int gapTo) {
+            return forest.cell(row, Forest.LEAST) + gapTo - gapFrom;
+        }
+
+        /** Where the parts of a node begin at the latest. */
+        int lastBegin(int to, int gapFrom, int narrowest) {
+            return gapFrom == NONE ? to - narrowest : gapFrom;
         }
 
         /**
-         * A tree that lies over some words has one of them by a WORD of its own. So node 0 needs,
-         * of other trees, only what covers fewer words, and a first round gives it rightly; open
-         * nodes, and nodes that hold nothing but the foot, may need trees that cover just as
-         * many, and get them in the second round.
+         * A node with a WORD in it, such as node 0 of any tree, covers that word by itself: so it
+         * needs only trees that cover fewer words than it does. Other nodes may need trees that
+         * cover just as many, and are laid when these are there.
          */
         void fill(Names words) {
             hear(words);
             Arrays.fill(initial, 0);
             Arrays.fill(auxiliary, 0);
+            Arrays.fill(auxiliaryTrees, 0);
+            for (int tree = 0; tree < forest.trees; tree++) {
+                if (forest.isAuxiliary(tree)) {
+                    auxiliaryTrees[forest.rootLabel(tree)]++;
+                }
+            }
             for (int covered = 0; covered <= length; covered++) {
-                layAll(covered);
+                layAll(covered, true);
                 for (int tree = 0; tree < forest.trees; tree++) {
                     addTree(tree, covered);
                 }
-                layAll(covered);
+                layAll(covered, false);
             }
         }
 
@@ -779,28 +808,35 @@ public final class TreeJoiner {
         }
 
         // Parts have greater numbers than their node: so downwards they are there before it.
-        private void layAll(int covered) {
+        private void layAll(int covered, boolean word) {
             for (int tree = 0; tree < forest.trees; tree++) {
                 for (int node = forest.sizes[tree] - 1; node >= 0; node--) {
-                    lay(Forest.row(tree, node), covered, false);
-                    lay(Forest.row(tree, node), covered, true);
+                    int row = Forest.row(tree, node);
+                    if (forest.hasWord(row, 0) == word) {
+                        lay(row, covered, 0);
+                    }
+                    if (forest.hasWord(row, Forest.ONWARD) == word) {
+                        lay(row, covered, Forest.ONWARD);
+                    }
                 }
             }
         }
 
-        private void lay(int row, int covered, boolean later) {
-            boolean gap = forest.cell(row, later ? Forest.FOOT_FROM_HERE : Forest.HAS_FOOT) == 1;
-            int[] ways = later ? onward : single;
+        /** Lays the node alone, or with its later parts where onwards is ONWARD. */
+        private void lay(int row, int covered, int onwards) {
+            int[] ways = onwards == 0 ? single : onward;
+            boolean possible = covered >= forest.cell(row, Forest.LEAST + onwards);
+            int gap = forest.cell(row, Forest.FEET + onwards);
             for (int from = 0; from + covered <= length; from++) {
-                int lastTo = gap ? length : from + covered;
-                for (int to = from + covered; to <= lastTo; to++) {
-                    int lastHole = gap ? from + covered : from;
+                int lastTo = gap == 0 ? from + covered : length;
+                for (int to = from + covered + gap; to <= lastTo; to++) {
+                    int lastHole = gap == 0 ? from : from + covered;
                     for (int hole = from; hole <= lastHole; hole++) {
-                        int gapFrom = gap ? hole : NONE;
-                        int gapTo = gap ? hole + to - from - covered : NONE;
-                        ways[row * QUADS + at(from, to, gapFrom, gapTo)] = later
-                                ? reckonOnward(row, from, to, gapFrom, gapTo)
-                                : reckonNode(row, from, to, gapFrom, gapTo);
+                        int gapFrom = gap == 0 ? NONE : hole;
+                        int gapTo = gap == 0 ? NONE : hole + to - from - covered;
+                        ways[row * QUADS + at(from, to, gapFrom, gapTo)] = !possible ? 0
+                                : onwards == 0 ? reckonNode(row, from, to, gapFrom, gapTo)
+                                : reckonOnward(row, from, to, gapFrom, gapTo);
                     }
                 }
             }
@@ -822,18 +858,18 @@ public final class TreeJoiner {
 
         private int reckonInner(int row, int from, int to, int gapFrom, int gapTo) {
             int mark = forest.cell(row, Forest.MARK);
+            int label = forest.cell(row, Forest.NAME);
             int ways = mark == Forest.MUST ? 0 : partsWays(row, from, to, gapFrom, gapTo);
-            if (mark == Forest.CANNOT) {
+            if (mark == Forest.CANNOT || auxiliaryTrees[label] == 0) {
                 return ways;
             }
-            int trees = forest.cell(row, Forest.NAME) * QUADS;
-            int parts = (row + 1) * QUADS;
-            int lastP = gapFrom == NONE ? to : gapFrom;
+            int narrowest = narrowest(row, gapFrom, gapTo);
+            int lastP = lastBegin(to, gapFrom, narrowest);
             for (int p = from; p <= lastP; p++) {
-                for (int q = Math.max(p, gapTo); q <= to; q++) {
-                    long above = auxiliary[trees + at(from, to, p, q)];
+                for (int q = Math.max(p + narrowest, gapTo); q <= to; q++) {
+                    long above = auxiliary[label * QUADS + at(from, to, p, q)];
                     if (above != 0) {
-                        ways = cut(ways + above * onward[parts + at(p, q, gapFrom, gapTo)]);
+                        ways = cut(ways + above * partsWays(row, p, q, gapFrom, gapTo));
                     }
                 }
             }
@@ -870,7 +906,7 @@ public final class TreeJoiner {
         }
 
         private void addAuxiliary(int root, int label, int from, int covered) {
-            for (int to = from + covered; to <= length; to++) {
+            for (int to = from + covered + 1; to <= length; to++) {
                 for (int hole = from; hole <= from + covered; hole++) {
                     int quad = at(from, to, hole, hole + to - from - covered);
                     int sum = label * QUADS + quad;
@@ -1000,9 +1036,10 @@ public final class TreeJoiner {
             int gapFrom = nodeCell(use, node, GAP_FROM);
             int gapTo = nodeCell(use, node, GAP_TO);
             int left = nodeCell(use, node, RANK);
-            int lastP = gapFrom == NONE ? to : gapFrom;
+            int narrowest = chart.narrowest(row, gapFrom, gapTo);
+            int lastP = chart.lastBegin(to, gapFrom, narrowest);
             for (int p = from; p <= lastP; p++) {
-                for (int q = Math.max(p, gapTo); q <= to; q++) {
+                for (int q = Math.max(p + narrowest, gapTo); q <= to; q++) {
                     long above = chart.nodeWays(Forest.row(tree, 0), from, to, p, q);
                     int below = chart.partsWays(row, p, q, gapFrom, gapTo);
                     int ways = Chart.cut(above * below);

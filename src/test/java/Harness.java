@@ -134,6 +134,18 @@ final class Harness {
         return x;
     }
 
+    /** 16 trees, 16 LABELs, 32 WORDs, and 8 words that are read as O in 10000000 ways. */
+    static TreeJoiner full() {
+        TreeJoiner x = with("S(a b c d e f g h i j k)", "S(l m n o p q r s t u v)",
+                "S(w x y z aa bb cc dd ee ff)", "S(A!B!C!D!E!F!G!H!I!J!a)", "S(K!L!M!N!O!a)");
+        for (int t = 5; t < 15; t++) {
+            tree(x, "O(a O*)");
+        }
+        tree(x, "O(a)");
+        sentence(x, "a a a a a a a a");
+        return x;
+    }
+
     /** All answers about the chosen way, a line each. */
     static String uses(TreeJoiner x) {
         StringBuilder out = new StringBuilder();

@@ -86,13 +86,7 @@ public final class RefusedCallsTest {
     }
 
     private static TreeJoiner full() {
-        TreeJoiner x = Harness.with("S(a b c d e f g h i j k)", "S(l m n o p q r s t u v)",
-                "S(w x y z aa bb cc dd ee ff)", "S(A!B!C!D!E!F!G!H!I!J!a)", "S(K!L!M!N!O!a)");
-        for (int t = 5; t < 15; t++) {
-            Harness.tree(x, "O(a O*)");
-        }
-        Harness.tree(x, "O(a)");
-        Harness.sentence(x, "a a a a a a a a");
+        TreeJoiner x = Harness.full();
         Harness.read(x, "O");
         x.choose(7654321);
         return x;

@@ -240,13 +240,7 @@ public final class SentenceEdgesTest {
     // Promise 14: "what = 0 trees, ... 6 nodes of the whole tree", at their least and their most.
     private static void countEach() {
         H.same("the least", "0 0 0 0 -1 0 0 0\n", Harness.state(new TreeJoiner()));
-        TreeJoiner x = Harness.with("S(a b c d e f g h i j k)", "S(l m n o p q r s t u v)",
-                "S(w x y z aa bb cc dd ee ff)", "S(A!B!C!D!E!F!G!H!I!J!a)", "S(K!L!M!N!O!a)");
-        for (int t = 5; t < 15; t++) {
-            Harness.tree(x, "O(a O*)");
-        }
-        Harness.tree(x, "O(a)");
-        Harness.sentence(x, "a a a a a a a a");
+        TreeJoiner x = Harness.full();
         Harness.read(x, "O");
         H.same("ways", 10000000, x.count(4));
         x.choose(0);

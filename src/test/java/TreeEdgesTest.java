@@ -294,9 +294,16 @@ public final class TreeEdgesTest {
             H.same("counts behind " + faulty[i], "1 1 1 0 -1 0 0 " + codes[i] + "\n",
                     Harness.state(x));
         }
-        H.goodTree(x, "U(c)");
+        // Nor is any mark, foot or part of its nodes.
+        H.badTree(x, "T+(U-(V+(T* d) e)", 2, 17);
+        H.goodTree(x, "U(c S! a)");
         H.same("LABEL 1", "U", Harness.name(x, false, 1, 1));
         H.same("WORD 1", "c", Harness.name(x, true, 1, 1));
+        H.same("its nodes", "0 1 -1 3 0\n3 1 0 0 0\n1 0 0 0 0\n3 0 0 0 0\n",
+                Harness.nodes(x, 1, 4));
+        H.index("no node more", () -> x.node(1, 4, 0));
+        H.goodSentence(x, "c a a", 3);
+        H.goodRead(x, "U", 1);
     }
 
     // Promise 4: "or -1 less the place of its fault: then all else stays".
