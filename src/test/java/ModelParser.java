@@ -23,7 +23,7 @@ final class ModelParser {
     final List<ModelTree> trees = new ArrayList<>();
     List<String> labels = new ArrayList<>();
     List<String> words = new ArrayList<>();
-    int spoken;
+    List<String> spoken = new ArrayList<>();
     int fault;
 
     private String text;
@@ -45,6 +45,14 @@ final class ModelParser {
     /** 0, or -1 less the place of the fault. */
     int label(String given) {
         return guarded(given, this::takeLabel);
+    }
+
+    int clear() {
+        int many = trees.size();
+        trees.clear();
+        labels = new ArrayList<>();
+        words = new ArrayList<>();
+        return many;
     }
 
     private int guarded(String given, java.util.function.IntSupplier take) {
@@ -138,19 +146,19 @@ final class ModelParser {
     }
 
     private int takeSentence() {
-        int found = 0;
+        List<String> found = new ArrayList<>();
         for (String token = peek(); !token.isEmpty(); token = peek()) {
             if (!isWord(token)) {
                 throw new Fault(2, at);
             }
-            found++;
-            if (found > 8) {
+            found.add(token);
+            if (found.size() > 8) {
                 throw new Fault(3, at);
             }
             at += token.length();
         }
         spoken = found;
-        return found;
+        return found.size();
     }
 
     private int takeLabel() {
@@ -203,13 +211,18 @@ final class ModelParser {
         return !token.isEmpty() && Character.isUpperCase(token.charAt(0));
     }
 
+    /** What node() must answer, by its what. */
+    int[] nodeCells(int t, int x) {
+        ModelTree.Node node = trees.get(t).nodes.get(x);
+        List<String> names = node.kind == ModelTree.Kind.WORD ? words : labels;
+        return new int[] {node.kind.ordinal(), names.indexOf(node.name),
+            node.parent == null ? -1 : node.parent.number, node.parts.size(), node.mark};
+    }
+
     String nodeLines(int t) {
         StringBuilder out = new StringBuilder();
-        for (ModelTree.Node node : trees.get(t).nodes) {
-            List<String> names = node.kind == ModelTree.Kind.WORD ? words : labels;
-            out.append(node.kind.ordinal()).append(' ').append(names.indexOf(node.name)).append(' ')
-                    .append(node.parent == null ? -1 : node.parent.number).append(' ')
-                    .append(node.parts.size()).append(' ').append(node.mark).append('\n');
+        for (int x = 0; x < trees.get(t).nodes.size(); x++) {
+            ModelWhole.line(out, nodeCells(t, x));
         }
         return out.toString();
     }

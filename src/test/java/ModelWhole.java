@@ -7,7 +7,8 @@ final class ModelWhole {
     final List<ModelWays.Use> uses = new ArrayList<>();
     private final List<Integer> useOf = new ArrayList<>();
     private final List<Integer> useAt = new ArrayList<>();
-    private final List<int[]> nodes = new ArrayList<>();
+    // Of each node of the whole tree what whole() must answer, by its what.
+    final List<int[]> nodes = new ArrayList<>();
     private final List<ModelTree> trees;
 
     ModelWhole(List<ModelTree> trees, ModelWays.Use way) {
@@ -61,12 +62,17 @@ final class ModelWhole {
         node.parts.forEach(part -> stand(use, part, number));
     }
 
+    /** What use() must answer, by its what. */
+    int[] useCells(int u) {
+        ModelWays.Use use = uses.get(u);
+        return new int[] {use.tree(), useOf.get(u), useAt.get(u), use.from(), use.to(),
+            use.gapFrom(), use.gapTo()};
+    }
+
     String useLines() {
         StringBuilder out = new StringBuilder();
         for (int u = 0; u < uses.size(); u++) {
-            ModelWays.Use use = uses.get(u);
-            line(out, use.tree(), useOf.get(u), useAt.get(u), use.from(), use.to(), use.gapFrom(),
-                    use.gapTo());
+            line(out, useCells(u));
         }
         return out.toString();
     }
@@ -77,7 +83,7 @@ final class ModelWhole {
         return out.toString();
     }
 
-    private static void line(StringBuilder out, int... cells) {
+    static void line(StringBuilder out, int... cells) {
         for (int i = 0; i < cells.length; i++) {
             out.append(i == 0 ? "" : " ").append(cells[i]);
         }

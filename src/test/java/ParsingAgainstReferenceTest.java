@@ -1,4 +1,3 @@
-import java.util.ArrayList;
 import java.util.List;
 
 /** Promises 4 to 7, 11, 12 and 14 on made-up texts, against ModelParser. */
@@ -6,9 +5,6 @@ public final class ParsingAgainstReferenceTest {
     private static final Harness H = new Harness("ParsingAgainstReferenceTest");
     private static final ModelTree.Shape SHAPE = new ModelTree.Shape(
             new String[] {"S", "A", "B", "LONGNAME", "X1", "Y22", "Z333"}, 10, 40);
-    private static final String[] PIECES = {"(", ")", "!", "*", "+", "-", "a", "b", "S", "A", "S*",
-        "A!", " ", "\n", ".", "1", "S(a", "word", "abcdefghijkl", "abcdefghijklm", "ABCDEFGH",
-        "ABCDEFGHI", "\u00c4", "\u0000", "\u007f", "\u000b"};
     private static final int[] SEEN = new int[9];
 
     public static void main(String[] args) {
@@ -42,12 +38,13 @@ public final class ParsingAgainstReferenceTest {
     }
 
     private static void flat(Dice dice, TreeJoiner x, ModelParser model, String where) {
-        String words = pieces(dice, new String[] {"a", "b", "word", " ", " ", "\t", "a ", "b "}, 20);
-        words = dice.chance(30) ? spoil(dice, words) : words;
+        String words = MadeUpTexts.pieces(dice,
+                new String[] {"a", "b", "word", " ", " ", "\t", "a ", "b "}, 20);
+        words = dice.chance(30) ? MadeUpTexts.spoil(dice, words) : words;
         H.same(where + " sentence " + words, model.sentence(words), Harness.sentence(x, words));
         compare(where + " sentence " + words, x, model);
         String label = dice.pick("S", "A", " LONGNAME ", "Z333\n");
-        label = dice.chance(50) ? spoil(dice, label) : label;
+        label = dice.chance(50) ? MadeUpTexts.spoil(dice, label) : label;
         int place = model.label(label);
         int answer = Harness.read(x, label);
         H.same(where + " read " + label, place, Math.min(answer, 0));
@@ -59,7 +56,7 @@ public final class ParsingAgainstReferenceTest {
         H.same(where + " trees", model.trees.size(), x.count(0));
         H.same(where + " labels", model.labels.size(), x.count(1));
         H.same(where + " words", model.words.size(), x.count(2));
-        H.same(where + " spoken", model.spoken, x.count(3));
+        H.same(where + " spoken", model.spoken.size(), x.count(3));
     }
 
     private static void names(TreeJoiner x, boolean word, List<String> names) {
@@ -74,44 +71,16 @@ public final class ParsingAgainstReferenceTest {
 
     private static String text(Dice dice) {
         if (dice.chance(5)) {
-            return pieces(dice, PIECES, 12);
+            return MadeUpTexts.pieces(dice, MadeUpTexts.PIECES, 12);
         }
         if (dice.chance(10)) {
-            return crowd(dice);
+            return MadeUpTexts.crowd(dice);
         }
         String text = ModelTree.random(dice, dice.chance(40), 2 + dice.roll(11), SHAPE).text(dice);
         int faults = dice.chance(40) ? 0 : 1 + dice.roll(2);
         for (int i = 0; i < faults; i++) {
-            text = spoil(dice, text);
+            text = MadeUpTexts.spoil(dice, text);
         }
         return text;
-    }
-
-    /** A tree of many names, and perhaps of too many nodes. */
-    private static String crowd(Dice dice) {
-        StringBuilder out = new StringBuilder("S(");
-        int parts = 8 + dice.roll(5);
-        for (int i = 0; i < parts; i++) {
-            char digit = (char) ('0' + dice.roll(10));
-            char small = (char) ('a' + dice.roll(26));
-            out.append(dice.chance(20) ? "L" + digit + "! " : small + dice.pick("", "a", "b") + " ");
-        }
-        return out.append(")").toString();
-    }
-
-    private static String spoil(Dice dice, String text) {
-        int at = dice.roll(text.length() + 1);
-        int to = Math.min(text.length(), at + dice.roll(3));
-        String piece = dice.chance(30) ? "" : dice.pick(PIECES);
-        return text.substring(0, at) + piece + text.substring(to);
-    }
-
-    private static String pieces(Dice dice, String[] choices, int most) {
-        List<String> out = new ArrayList<>();
-        int many = dice.roll(most + 1);
-        for (int i = 0; i < many; i++) {
-            out.add(dice.pick(choices));
-        }
-        return String.join("", out);
     }
 }
